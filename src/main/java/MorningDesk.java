@@ -618,8 +618,8 @@ public final class MorningDesk {
         private static final long UNFILLED = 1L << (ROW_BITS + 21);
 
         // A cost above the row's bits, where each gap has a digit, gap 0 the highest: a sum of weights is least
-        // for the least cost and, of like ones, for the least row.
-        private final long[][] weights = new long[MOST_GAPS][MOST_TEACHERS];
+        // for the least cost and, of like ones, for the least row. The last of a gap's is NOBODY's.
+        private final long[][] weights = new long[MOST_GAPS][NOBODY + 1];
         private final int[] takers = new int[MOST_GAPS];
         private int openGaps;
 
@@ -640,7 +640,10 @@ public final class MorningDesk {
         }
 
         void open(int g) {
-            openGaps |= 1 << g;
+            if (isGap(g)) {
+                openGaps |= 1 << g;
+                weights[g][NOBODY] = UNFILLED + digit(g, NOBODY);
+            }
         }
 
         void offer(int g, int t, int cost) {
@@ -730,10 +733,7 @@ public final class MorningDesk {
         }
 
         private long weightOf(int g, int t) {
-            if (t == NOBODY) {
-                return UNFILLED + digit(g, NOBODY);
-            }
-            return isGap(g) && t >= 0 && t < MOST_TEACHERS ? weights[g][t] : CANNOT;
+            return g >= 0 && g < MOST_GAPS && t >= 0 && t <= NOBODY ? weights[g][t] : CANNOT;
         }
 
         private void bringIn(int newGap) {

@@ -13,7 +13,9 @@ public final class MatchTest {
         promise12LeastRowThen();
         promise12WhoIsSent();
         promise13Next();
+        promise12LongChain();
         promise15Hall();
+        promise15HallOfAll();
         DUE.end();
     }
 
@@ -197,6 +199,45 @@ public final class MatchTest {
         DUE.is("who is out is not called", desk.next(), 2);
         desk.answer(2, 1);
         DUE.is("nobody is left", desk.next(), -1);
+    }
+
+    /** Teacher t reaches the schools t and t + 1 alone: the last gap, at school 0, pushes all the others on. */
+    private static void promise12LongChain() {
+        MorningDesk chain = new MorningDesk();
+        for (int t = 0; t < 6; t++) {
+            chain.teacher(1, 1, 9);
+            for (int school = 0; school < 6; school++) {
+                chain.way(t, school, school == t ? 10 : school == t + 1 ? 1 : 61);
+            }
+        }
+        for (int school = 1; school < 6; school++) {
+            chain.gap(school, 0, 0, 0, 1);
+        }
+        for (int g = 0; g < 5; g++) {
+            DUE.is("the near one", chain.who(g), g);
+        }
+        DUE.is("five at 1", chain.costs(), 5);
+        chain.gap(0, 0, 0, 0, 1);
+        DUE.is("six", chain.match(), 6);
+        for (int g = 0; g < 5; g++) {
+            DUE.is("pushed on", chain.who(g), g + 1);
+        }
+        DUE.is("the first school", chain.who(5), 0);
+        DUE.is("six at 10", chain.costs(), 60);
+    }
+
+    private static void promise15HallOfAll() {
+        MorningDesk desk = new MorningDesk();
+        for (int t = 0; t < 9; t++) {
+            desk.teacher(1, 1, 9);
+        }
+        for (int g = 0; g < 10; g++) {
+            DUE.is("nine are enough", desk.hall(), 0);
+            desk.gap(0, 0, 0, 0, 1);
+        }
+        DUE.is("ten gaps for nine", desk.hall(), 1023);
+        DUE.is("nine are filled", desk.match(), 9);
+        DUE.is("the last is not", desk.who(9), -1);
     }
 
     private static void promise15Hall() {
