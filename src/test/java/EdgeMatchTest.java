@@ -2,6 +2,9 @@
 public final class EdgeMatchTest {
     private static final Due DUE = new Due();
     private static final int NEVER = 61;
+    // Ten places, so laid out that there is for each two that follow one another a teacher who can go there alone.
+    private static final int[] CHAIN_SCHOOLS = {0, 0, 1, 1, 2, 2, 3, 3, 4, 4};
+    private static final int[] CHAIN_AGES = {0, 1, 1, 2, 2, 3, 3, 0, 0, 1};
 
     public static void main(String[] args) {
         fillEachAge();
@@ -26,6 +29,9 @@ public final class EdgeMatchTest {
         matchClampsEachCost();
         match12ForNoneIsTheHighest();
         matchLeastRowAtTheLastGap();
+        matchLowerGapAheadOfLaterOnes();
+        matchLongestChainDownwards();
+        matchLongestChainUpwards();
         matchOnlyFreeTeachersAndOpenGaps();
         whoIsSentThoughTheyCanNoMore();
         nextNobody();
@@ -383,6 +389,73 @@ public final class EdgeMatchTest {
         DUE.is("all move on by one", desk.who(0), 1);
         DUE.is("up to gap 7", desk.who(7), 8);
         DUE.is("none for gap 8", desk.who(8), -1);
+    }
+
+    /** 0 and 11 is a lesser row than 1 and 0, at the first gaps and at the last. */
+    private static void matchLowerGapAheadOfLaterOnes() {
+        for (int first = 0; first <= 8; first++) {
+            MorningDesk desk = new MorningDesk();
+            for (int t = 0; t < 12; t++) {
+                desk.teacher(255, t == 0 ? 0b0011 : t == 1 ? 0b0001 : t == 11 ? 0b0010 : 0, 9);
+            }
+            for (int g = 0; g < 10; g++) {
+                desk.gap(0, 0, 0, g == first ? 0 : g == first + 1 ? 1 : 3, 1);
+            }
+            DUE.is("two", desk.match(), 2);
+            DUE.is("the lower gap " + first + " has the lowest", desk.who(first), 0);
+            DUE.is("the later has the highest", desk.who(first + 1), 11);
+        }
+    }
+
+    /** Teacher t can go to the places t and t + 1, better to t; teacher 9 to place 0 alone. */
+    private static MorningDesk withChain() {
+        MorningDesk desk = new MorningDesk();
+        for (int t = 0; t < 10; t++) {
+            int from = t == 9 ? 0 : t;
+            int to = t == 9 ? 0 : t + 1;
+            desk.teacher(1 << from % 8, 1 << CHAIN_AGES[from] | 1 << CHAIN_AGES[to], 9);
+            desk.likes(t, 0, 63 & ~(1 << CHAIN_SCHOOLS[from] | 1 << CHAIN_SCHOOLS[to]));
+        }
+        return desk;
+    }
+
+    private static void chainGap(MorningDesk desk, int place) {
+        desk.gap(CHAIN_SCHOOLS[place], 0, place % 8, CHAIN_AGES[place], 1);
+    }
+
+    /** The last gap takes the one before's teacher, and so on down to gap 0. */
+    private static void matchLongestChainDownwards() {
+        MorningDesk desk = withChain();
+        for (int place = 0; place < 9; place++) {
+            chainGap(desk, place);
+        }
+        for (int g = 0; g < 9; g++) {
+            DUE.is("the better place is " + g, desk.who(g), g);
+        }
+        DUE.is("nine in their subjects", desk.costs(), 9 * 30);
+        chainGap(desk, 9);
+        DUE.is("ten", desk.match(), 10);
+        DUE.is("one in their subject", desk.costs(), 9 * 90 + 30);
+        for (int g = 0; g < 10; g++) {
+            DUE.is("moved on to " + g, desk.who(g), g == 0 ? 9 : g - 1);
+        }
+    }
+
+    /** The last gap takes gap 0's teacher, gap 0 takes gap 1's, and so on up to gap 8. */
+    private static void matchLongestChainUpwards() {
+        MorningDesk desk = withChain();
+        for (int place = 8; place >= 0; place--) {
+            chainGap(desk, place);
+        }
+        for (int g = 0; g < 9; g++) {
+            DUE.is("the better place is " + g, desk.who(g), 8 - g);
+        }
+        chainGap(desk, 9);
+        DUE.is("ten", desk.match(), 10);
+        DUE.is("the last", desk.who(9), 8);
+        for (int g = 0; g < 9; g++) {
+            DUE.is("moved on to " + g, desk.who(g), g == 8 ? 9 : 7 - g);
+        }
     }
 
     private static void matchOnlyFreeTeachersAndOpenGaps() {
