@@ -15,6 +15,10 @@ final class Due {
         is(what, got ? 1 : 0, want ? 1 : 0);
     }
 
+    int asked() {
+        return asked;
+    }
+
     void end() {
         System.out.println(wrong == 0 ? asked + " answers are as due" : wrong + " of " + asked + " are not as due");
         if (wrong != 0) {

@@ -4,11 +4,16 @@ import java.util.Random;
 public final class RandomRunsTest {
     private static final Due DUE = new Due();
     private static final int CALLS = 512;
+    // The most calls that one step of a run can take.
+    private static final int A_STEP = 12;
+    private static final int A_DAY = 37;
+    private static final int STRANGERS = 9;
     private static final int[] WILD = {Integer.MIN_VALUE, -1, 0, 1, 5, 6, 8, 9, 10, 12, 16, 60, 64, 201, 256,
         Integer.MAX_VALUE};
 
     private final Random random;
     private final boolean busy;
+    private final boolean months;
     private final MorningDesk desk = new MorningDesk();
     private final PlainDesk plain = new PlainDesk();
 
@@ -16,10 +21,12 @@ public final class RandomRunsTest {
         random = new Random(seed);
         // Busy runs reach twelve teachers and ten gaps with many likes in their costs.
         busy = seed % 2 == 0;
+        // Runs of months go beyond the 30 days of a stranger, with few classes so that they are seen again.
+        months = seed % 3 == 2;
     }
 
     public static void main(String[] args) {
-        int runs = args.length > 0 ? Integer.parseInt(args[0]) : 60;
+        int runs = args.length > 0 ? Integer.parseInt(args[0]) : 120;
         for (int seed = 0; seed < runs; seed++) {
             new RandomRunsTest(seed).run(seed);
         }
@@ -27,8 +34,9 @@ public final class RandomRunsTest {
     }
 
     private void run(int seed) {
-        for (int call = 0; call < CALLS; call++) {
-            String where = "run " + seed + ", call " + call + ": ";
+        int from = DUE.asked();
+        while (DUE.asked() - from <= CALLS - A_STEP) {
+            String where = "run " + seed + ", call " + (DUE.asked() - from) + ": ";
             if (random.nextInt(3) == 0) {
                 change(where);
             } else {
@@ -41,6 +49,14 @@ public final class RandomRunsTest {
         return random.nextInt(25) == 0 ? WILD[random.nextInt(WILD.length)] : random.nextInt(most + 1);
     }
 
+    private int someSchool() {
+        return upTo(months ? 1 : 5);
+    }
+
+    private int someClass() {
+        return upTo(busy && !months ? 15 : 1);
+    }
+
     private int bits(int most) {
         return random.nextInt(25) == 0 ? WILD[random.nextInt(WILD.length)]
                 : random.nextInt(most + 1) | random.nextInt(most + 1);
@@ -51,7 +67,7 @@ public final class RandomRunsTest {
     }
 
     private void change(String where) {
-        int kind = random.nextInt(40);
+        int kind = months && random.nextInt(3) == 0 ? A_DAY : random.nextInt(40);
         int t = upTo(11);
         if (kind < 9) {
             int subjects = bits(255);
@@ -59,7 +75,7 @@ public final class RandomRunsTest {
             int check = random.nextInt(6) == 0 ? upTo(20) : upTo(3000);
             DUE.is(where + "teacher", desk.teacher(subjects, ages, check), plain.teacher(subjects, ages, check));
         } else if (kind < 21) {
-            int[] five = {upTo(5), upTo(busy ? 15 : 1), upTo(7), upTo(3), 1 + upTo(7)};
+            int[] five = {someSchool(), someClass(), upTo(7), upTo(3), 1 + upTo(7)};
             DUE.is(where + "gap", desk.gap(five[0], five[1], five[2], five[3], five[4]), plain.gap(five));
         } else if (kind < 25) {
             int school = upTo(5);
@@ -73,7 +89,7 @@ public final class RandomRunsTest {
             int asked = random.nextInt(4) == 0 ? t : plain.next();
             int how = upTo(2);
             DUE.is(where + "answer", desk.answer(asked, how), plain.answer(asked, how));
-        } else if (kind < 38) {
+        } else if (kind <= A_DAY) {
             DUE.is(where + "day", desk.day(), plain.day());
         } else {
             newRules(where);
@@ -107,20 +123,22 @@ public final class RandomRunsTest {
     private void ask(String where) {
         int t = upTo(11);
         int g = upTo(9);
-        switch (random.nextInt(13)) {
+        switch (months && random.nextBoolean() ? STRANGERS : random.nextInt(13)) {
             case 0 -> DUE.is(where + "can", desk.can(t, g), plain.can(t, g));
             case 1 -> DUE.is(where + "cost", desk.cost(t, g), plain.cost(t, g));
             case 2, 3 -> DUE.is(where + "match", desk.match(), plain.match());
             case 4 -> DUE.is(where + "costs", desk.costs(), plain.costs());
-            case 5, 6 -> askAllWho(where);
+            case 5 -> DUE.is(where + "who " + g, desk.who(g), plain.who(g));
+            case 6 -> askAllWho(where);
             case 7 -> DUE.is(where + "next", desk.next(), plain.next());
             case 8 -> DUE.is(where + "hall", desk.hall(), plain.hall());
-            case 9 -> {
-                DUE.is(where + "pay", desk.pay(t), plain.pay(t));
-                int klass = upTo(busy ? 15 : 1);
-                DUE.is(where + "strangers", desk.strangers(g, klass), plain.strangers(g, klass));
+            case STRANGERS -> {
+                int school = someSchool();
+                int klass = someClass();
+                DUE.is(where + "strangers", desk.strangers(school, klass), plain.strangers(school, klass));
             }
             case 10 -> {
+                DUE.is(where + "pay", desk.pay(t), plain.pay(t));
                 int what = upTo(16);
                 DUE.is(where + "look " + t + " " + what, desk.look(t, what), plain.look(t, what));
             }
